@@ -5,6 +5,8 @@ public final class HistoryTest {
         errorsAreNotRecorded();
         undoOfEachAct();
         undoOfMovingAndCopying();
+        undoOfTotals();
+        undoOfFreezing();
         keeping();
         restoringIsAnAct();
         snapshotStaysBehindUndo();
@@ -103,6 +105,72 @@ public final class HistoryTest {
         Check.due("reads", x.thread(0, 3), 0);
         Check.due("the log", x.event(0, 0), HopHomes.NONE);
         Check.due("once more", x.read(0, 0), 21);
+    }
+
+    private static void undoOfTotals() {
+        HopHomes x = Check.make(Check.at(0, 0, 1), Check.at(1));
+        x.set(0, 2);
+        x.set(2, 1);
+        x.setFrames(1, 2);
+        x.read(0, 0);
+        Check.due("a copy for a copy", x.read(0, 1), 21);
+        Check.due("made", x.count(7), 2);
+        Check.due("gave way", x.count(8), 1);
+        x.undo();
+        Check.due("made before", x.count(7), 1);
+        Check.due("gave way before", x.count(8), 0);
+        Check.due("the copy is back", x.home(1, 5), 0);
+        x.setFrames(1, 1);
+        x.read(0, 1);
+        Check.due("denials", x.count(9), 1);
+        x.undo();
+        Check.due("denials before", x.count(9), 0);
+        x.write(0, 2);
+        Check.due("writes", x.thread(0, 4), 1);
+        x.undo();
+        Check.due("writes before", x.thread(0, 4), 0);
+        Check.due("never written", x.page(2, 6), HopHomes.NONE);
+    }
+
+    /** The page is read by turns from both homes, so that it moves each time. */
+    private static void undoOfFreezing() {
+        HopHomes x = Check.make(Check.at(0), Check.at(0, 1));
+        x.set(0, 1);
+        x.set(2, 1);
+        Check.due("moved to 1", x.read(1, 0), 21);
+        Check.due("moved to 0", x.read(0, 0), 21);
+        x.keep();
+        Check.due("moved to 1 and frozen", x.read(1, 0), 21);
+        Check.due("frozen", x.page(0, 5), 30);
+        Check.due("not moved", x.read(0, 0), 6);
+        Check.due("frozen", x.page(0, 5), 29);
+        x.undo();
+        Check.due("frozen as before", x.page(0, 5), 30);
+        x.undo();
+        Check.due("not frozen before", x.page(0, 5), 0);
+        Check.due("no frozen page", x.count(10), 0);
+        Check.due("moved and frozen again", x.read(1, 0), 21);
+        Check.due("frozen", x.page(0, 5), 30);
+        x.restore();
+        Check.due("not frozen when it was kept", x.page(0, 5), 0);
+        Check.due("moved and frozen once more", x.read(1, 0), 21);
+        Check.due("frozen", x.page(0, 5), 30);
+        Check.due("movings", x.page(0, 4), 3);
+
+        // A state in which the page had not moved yet must forget the movings behind it.
+        HopHomes y = Check.make(Check.at(0), Check.at(0, 1));
+        y.set(0, 1);
+        y.set(2, 1);
+        y.keep();
+        y.read(1, 0);
+        y.read(0, 0);
+        y.restore();
+        Check.due("the first moving", y.read(1, 0), 21);
+        Check.due("is not the third", y.page(0, 5), 0);
+        Check.due("the second moving", y.read(0, 0), 21);
+        Check.due("is not the third", y.page(0, 5), 0);
+        Check.due("the third moving", y.read(1, 0), 21);
+        Check.due("freezes", y.page(0, 5), 30);
     }
 
     private static void keeping() {
