@@ -49,6 +49,11 @@ final class Check {
         return x;
     }
 
+    /** What lies outside of a range: the numbers next to it, and the least and greatest ones. */
+    static int[] outside(int first, int last) {
+        return new int[] {first - 1, last + 1, Integer.MIN_VALUE, Integer.MAX_VALUE};
+    }
+
     static int[] at(int... homes) {
         return homes;
     }
