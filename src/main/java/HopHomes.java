@@ -445,11 +445,11 @@ public final class HopHomes {
             return error;
         }
         int best = 0;
-        int leastCost = Integer.MAX_VALUE;
+        int leastCost = 0;
         for (int policy = 0; policy < POLICIES; policy++) {
             takeForTrial(policy);
             int cost = trace.runOn(tried);
-            if (cost < leastCost) {
+            if (policy == 0 || cost < leastCost) {
                 best = policy;
                 leastCost = cost;
             }
